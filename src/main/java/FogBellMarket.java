@@ -986,24 +986,18 @@ public final class FogBellMarket {
             if (thin) {
                 ready = true;
             }
-            if (open) {
-                if (thin || minutesOpen >= bellDuration) {
-                    endBell();
+            if (open && (thin || minutesOpen >= bellDuration)) {
+                open = false;
+                minutesOpen = 0;
+                for (int i = 0; i < buyerCount; i++) {
+                    returnGood(buyers[i]);
+                    buyers[i].avoided = 0;
                 }
-            } else if (ready && !thin) {
+            } else if (!open && ready && !thin) {
                 open = true;
                 minutesOpen = 0;
                 ready = false;
                 rings++;
-            }
-        }
-
-        private void endBell() {
-            open = false;
-            minutesOpen = 0;
-            for (int i = 0; i < buyerCount; i++) {
-                returnGood(buyers[i]);
-                buyers[i].avoided = 0;
             }
         }
 
