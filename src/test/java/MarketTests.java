@@ -1049,14 +1049,14 @@ public final class MarketTests {
 
     private static void promise64WriteRope() {
         FogBellMarket m = market("market 9 1 50; fog 0; stall 0 red rough 1 1; stall 99 red rough 1 1; stall 10 red rough 1 1;"
-            + "stall 10 red rough 1 1; stall 20 red rough 1 1; stall 50 red rough 1 1; buyer 20 1 rough 1; buyer 30 1 rough 1;"
+            + "stall 10 red rough 1 1; stall 50 red rough 1 1; stall 21 red rough 1 1; buyer 21 1 rough 1; buyer 30 1 rough 1;"
             + "buyer 30 1 rough 1; buyer 50 1 rough 1; buyer 98 1 rough 1; buyer 1 1 rough 1;");
         due("length", m.writeRope(), 100);
         StringBuilder want = new StringBuilder("-".repeat(100));
         want.setCharAt(0, 'A');
         want.setCharAt(1, 'f');
         want.setCharAt(10, 'C');
-        want.setCharAt(20, 'a');
+        want.setCharAt(21, 'a');
         want.setCharAt(30, 'b');
         want.setCharAt(50, '*');
         want.setCharAt(98, 'e');
@@ -1078,6 +1078,7 @@ public final class MarketTests {
         m.writeRope();
         due("first byte", m.outputByte(0), 98);
         due("the bell", m.outputByte(10), 42);
+        due("the last stall", m.outputByte(55), 67);
         due("the last byte", m.outputByte(99), 45);
         for (int index : new int[] {-1, 100, Integer.MIN_VALUE, Integer.MAX_VALUE}) {
             due("outputByte " + index, m.outputByte(index), -1);

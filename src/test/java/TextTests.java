@@ -208,11 +208,13 @@ public final class TextTests {
         due("nothing was appended", inputLength(m), 690);
         due("feed up to 700", feed(m, "  move 0 1"), 700);
         due("a byte more", m.feed(0, 0, 0, 0, 32), -1);
+        due("the smallest byte more", m.feed(1, 0, 0, 0, 0), -1);
         due("zeroes more", m.feed(0, 0, 0, 0, 0), 700);
         due("the end of a full buffer", m.runScript(), -1);
         due("code at the end of a full buffer", m.errorCode(), 1);
         due("position at the end of a full buffer", m.errorPosition(), 700);
         due("a full buffer is emptied", m.feed(0, 0, 0, 0, 32), 1);
+        promise2EachParameterCounts();
         FogBellMarket full = new FogBellMarket();
         feed(full, "price 0 9;");
         for (int i = 0; i < 34; i++) {
@@ -221,6 +223,21 @@ public final class TextTests {
         due("a script of 700 bytes", feed(full, " move 1 3;"), 700);
         due("run 700 bytes", full.runScript(), 2);
         due("the last command of 700 bytes", full.positionOf(1), 3);
+    }
+
+    private static void promise2EachParameterCounts() {
+        FogBellMarket m = new FogBellMarket();
+        for (int i = 0; i < 34; i++) {
+            m.feed(-1, -1, -1, -1, -1);
+        }
+        due("feed up to 697", m.feed(-1, -1, -1, -1, 0x01000000), 697);
+        due("too much in the first", m.feed(-1, 0, 0, 0, 0), -1);
+        due("too much in the second", m.feed(0, -1, 0, 0, 0), -1);
+        due("too much in the third", m.feed(0, 0, -1, 0, 0), -1);
+        due("too much in the fourth", m.feed(0, 0, 0, -1, 0), -1);
+        due("too much in the fifth", m.feed(0, 0, 0, 0, -1), -1);
+        due("too much in all", m.feed(1, 1 << 8, 0, 1 << 16, 1 << 24), -1);
+        due("just enough", m.feed(0, 1 << 8, 0, 1 << 16, 1 << 24), 700);
     }
 
     // ---- promise 3
@@ -234,6 +251,11 @@ public final class TextTests {
         due("an empty market", setup(m, "market 1 1 0; fog 5;"), 0);
         due("the empty market", describe(m), "0 0 1 1 0 false true 0 0 fog 5 5 5 5 5 5 5 5 5 5 5 5");
         due("output stands", m.outputByte(0), -1);
+        setup(m, "market 1 60 1; fog 9; stall 1 red rough 7 9; stall 1 red soft 7 9; buyer 1 99 rough 1; buyer 1 99 soft 1; minutes 9;");
+        due("a lively market", m.boughtBy(1) > 0 && m.avoidedBy(1) > 0 && m.lostOf(0) > 0 && m.soldOf(0) > 0, true);
+        setup(m, "market 1 60 1; fog 9; stall 1 red rough 7 9; stall 1 red soft 7 9; buyer 1 99 rough 1; buyer 1 99 soft 1;");
+        due("a quiet market in its place", describe(m), "0 1 1 60 0 false true 0 0 fog 9 9 9 9 9 9 9 9 9 9 9 9"
+            + "; stall 1 0 0 7 9 0 0 0 0; stall 1 0 2 7 9 0 0 0 0; buyer 1 99 0 1 -1 0 0 0; buyer 1 99 2 1 -1 0 0 0");
     }
 
     private static void promise3SetupForgetsChangesAndSaves() {
@@ -284,6 +306,14 @@ public final class TextTests {
     }
 
     private static void promise4ScriptIsOneChange() {
+        FogBellMarket behind = new FogBellMarket();
+        script(behind, "fog 0 9;");
+        due("density by script", behind.fogIn(0), 9);
+        behind.setPrice(0, 77);
+        behind.passMinutes(2);
+        due("a script behind other changes", script(behind, "price 1 5; fog 1 0;"), 2);
+        due("the other changes stand", behind.priceOf(0) * 100 + behind.minute(), 7709);
+        due("the script's changes stand", behind.priceOf(1) * 100 + behind.fogIn(5), 500);
         FogBellMarket m = new FogBellMarket();
         String before = describe(m);
         due("script of three", script(m, "price 0 1; price 0 2; minutes 3;"), 3);
@@ -375,7 +405,8 @@ public final class TextTests {
             "back 0 ^1;", "minutes ^;", "minutes 1^", "minutes 1 ^1;", "price 0 5^,", "price^\t0 5;", "price 0 5;^-", "^_",
             "price 0 ^-5;", "price 0 5^.0;", "price 0 5^:", "price 0 5^/", "price 0 5^`;", "price 0 5^{;", "price 0 5^\r;",
             "price 0 5 ^\u00e9;", "price 0 5 ^\u00ff;", "price 0 5; ^\u0080", "minutes 5; ^minute 5;", "price 0 5; ^prise 0 5;",
-            "price 0 5; move 1^"};
+            "price 0 5; move 1^", "^dog 0 5;", "^zinutes 5;", "stall 1 ^bed soft 1 1;",
+            "stall 1 red ^loft 1 1;", "^fogz 0 1;", "price 0 5; ^fogz", "^afog 0 1;", "^prices 0 5;", "stall 1 ^redz soft 1 1;"};
         for (String text : texts) {
             badScript(1, text);
         }
