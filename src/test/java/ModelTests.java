@@ -402,9 +402,7 @@ public final class ModelTests {
         }
 
         void stallCommand(ModelState s, int verb) throws TextError {
-            ModelStall stall = s.stalls.isEmpty() ? null : s.stalls.get(0);
-            int which = number(0, s.stalls.size() - 1);
-            stall = s.stalls.get(which);
+            ModelStall stall = s.stalls.get(number(0, s.stalls.size() - 1));
             if (verb == 2) {
                 int cost = number(1, 999);
                 take(';');
@@ -805,10 +803,10 @@ public final class ModelTests {
     private static final class Walk {
         final int run;
         long dice;
-        // No object answers more than 512 calls, so the looks after each step go to a fresh twin.
         final List<String> story = new ArrayList<>();
-        FogBellMarket real = new FogBellMarket();
-        Model model = new Model();
+        final FogBellMarket real = new FogBellMarket();
+        final Model model = new Model();
+        // What an object answers after its 512th call is free.
         int calls = 0;
 
         Walk(int run) {
