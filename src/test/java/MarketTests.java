@@ -1,18 +1,9 @@
-import java.util.NoSuchElementException;
-
 /** Tests of promises 7 to 65: what the market tells, how minutes pass, predictions, changes, undo, output. */
-public final class MarketTests {
+public final class MarketTests extends Checks {
     // One buyer goes to and fro: takes a good in the minutes 1, 5, 9 and pays in the minutes 3, 7, 11.
     private static final String TO_AND_FRO = "market 1 60 0; fog 5; stall 10 red rough 7 3; buyer 0 100 rough 5;";
     // Open in the first five minutes of each hour; the buyer takes the good in the minute 60 and pays in the minute 63.
     private static final String TWO_HOURS = "market 1 60 13; fog 9 0 0 0 0 0 0 0 0 0 0 0; stall 10 white rough 7 1; buyer 4 100 rough 1; minutes ";
-
-    private static final Class<?> BOUNDS = IndexOutOfBoundsException.class;
-    private static final Class<?> ARGUMENT = IllegalArgumentException.class;
-    private static final Class<?> STATE = IllegalStateException.class;
-
-    private static int wrong = 0;
-    private static int checks = 0;
 
     public static void main(String[] args) {
         promises7To11TellTheBell();
@@ -65,31 +56,10 @@ public final class MarketTests {
         promise63Restore();
         promise64WriteRope();
         promise65OutputByte();
-        System.out.println(checks + " checks, " + wrong + " wrong");
-        if (wrong != 0) {
-            System.exit(1);
-        }
+        end();
     }
 
     // ---- the helpers
-
-    private static void due(String what, Object got, Object want) {
-        checks++;
-        if (!String.valueOf(got).equals(String.valueOf(want))) {
-            wrong++;
-            System.out.println(what + ": answered " + got + ", due is " + want);
-        }
-    }
-
-    private static void refused(String what, Class<?> want, Runnable call) {
-        Object got = "nothing";
-        try {
-            call.run();
-        } catch (RuntimeException thrown) {
-            got = thrown.getClass().getName();
-        }
-        due(what + " throws", got, want.getName());
-    }
 
     interface IntCall {
         int of(int value);
@@ -101,78 +71,12 @@ public final class MarketTests {
         }
     }
 
-    private static int word(String text, int from) {
-        int word = 0;
-        for (int i = from; i < from + 4; i++) {
-            word = word << 8 | (i < text.length() ? text.charAt(i) & 255 : 0);
-        }
-        return word;
-    }
-
-    private static void feed(FogBellMarket m, String text) {
-        for (int i = 0; i < text.length(); i += 20) {
-            m.feed(word(text, i), word(text, i + 4), word(text, i + 8), word(text, i + 12), word(text, i + 16));
-        }
-    }
-
-    private static FogBellMarket market(String setup) {
-        FogBellMarket m = new FogBellMarket();
-        feed(m, setup);
-        if (m.loadSetup() == FogBellMarket.NONE) {
-            throw new AssertionError("a setup of these tests is wrong: " + setup + " at " + m.errorPosition());
-        }
-        return m;
-    }
-
     private static FogBellMarket marketAfter(String setup, int minutes) {
         FogBellMarket m = market(setup);
         for (int i = 0; i < minutes; i++) {
             m.passMinutes(1);
         }
         return m;
-    }
-
-    private static String rope(FogBellMarket m) {
-        m.writeRope();
-        StringBuilder rope = new StringBuilder();
-        for (int i = 0; i < 100; i++) {
-            rope.append((char) m.outputByte(i));
-        }
-        return rope.toString();
-    }
-
-    private static String bell(FogBellMarket m) {
-        return (m.isOpen() ? "open " : "closed ") + m.openMinutes() + (m.isReady() ? " ready " : " waits ") + m.ringings();
-    }
-
-    private static String stall(FogBellMarket m, int i) {
-        return "at " + m.positionOf(i) + " lantern " + m.lanternOf(i) + " texture " + m.textureOf(i) + " price " + m.priceOf(i)
-            + " stock " + m.stockOf(i);
-    }
-
-    private static String goods(FogBellMarket m, int i) {
-        return m.stockOf(i) + " held " + m.heldOf(i) + " sold " + m.soldOf(i) + " lost " + m.lostOf(i) + " for " + m.earnings(i);
-    }
-
-    private static String buyer(FogBellMarket m, int i) {
-        return "at " + m.placeOf(i) + " coins " + m.coinsOf(i) + " holds " + m.heldFrom(i) + " owes " + m.debtOf(i)
-            + " avoids " + m.avoidedBy(i) + " bought " + m.boughtBy(i);
-    }
-
-    private static String all(FogBellMarket m) {
-        StringBuilder all = new StringBuilder();
-        all.append(m.minute()).append(' ').append(bell(m)).append(' ').append(m.bellPosition()).append(' ')
-            .append(m.threshold()).append(' ').append(m.duration());
-        for (int i = 0; i < 12; i++) {
-            all.append(' ').append(m.fogIn(5 * i));
-        }
-        for (int i = 0; i < m.stallCount(); i++) {
-            all.append("; ").append(stall(m, i)).append(' ').append(goods(m, i));
-        }
-        for (int i = 0; i < m.buyerCount(); i++) {
-            all.append("; ").append(buyer(m, i)).append(' ').append(m.wantedTexture(i)).append(' ').append(m.speedOf(i));
-        }
-        return all.toString();
     }
 
     // ---- fog and bell
@@ -721,7 +625,7 @@ public final class MarketTests {
 
     private static void predictionsChangeNothing() {
         FogBellMarket m = new FogBellMarket();
-        String before = all(m);
+        String before = state(m);
         m.minutesToBell();
         m.minutesToEnd();
         m.minutesToPay(0);
@@ -732,7 +636,7 @@ public final class MarketTests {
         m.bestBellPosition();
         m.seenFrom(5);
         m.targetOf(1);
-        due("the market after predictions", all(m), before);
+        due("the market after predictions", state(m), before);
         due("no change", m.undoCount(), 0);
     }
 
@@ -903,7 +807,7 @@ public final class MarketTests {
         thrice.passMinutes(7);
         thrice.passMinutes(22);
         thrice.passMinutes(1);
-        due("minutes pass one by one", all(thrice), all(once));
+        due("minutes pass one by one", state(thrice), state(once));
     }
 
     // ---- undo, saved states, output
@@ -934,7 +838,7 @@ public final class MarketTests {
 
     private static void promise61UndoEachKindOfChange() {
         FogBellMarket m = new FogBellMarket();
-        String before = all(m);
+        String before = state(m);
         feed(m, "price 0 1; minutes 10;");
         Runnable[] changes = {
             () -> m.addStall(1, 2, 2, 4, 5), () -> m.addBuyer(1, 2, 2, 4), () -> m.setPrice(1, 100), () -> m.addStock(1, 10),
@@ -942,11 +846,11 @@ public final class MarketTests {
             () -> m.runScript()};
         for (int i = 0; i < changes.length; i++) {
             changes[i].run();
-            due("something changed in change " + i, all(m).equals(before), false);
+            due("something changed in change " + i, state(m).equals(before), false);
             due("a change " + i, m.undoCount(), 1);
             due("undo of change " + i, m.undo(), 0);
             if (i % 2 == 1 || i > 6) {
-                due("as before change " + i, all(m), before);
+                due("as before change " + i, state(m), before);
             }
             if (i == 4) {
                 due("lantern as before", m.lanternOf(1), 3);
@@ -1026,23 +930,23 @@ public final class MarketTests {
 
     private static void promise63Restore() {
         FogBellMarket m = new FogBellMarket();
-        refused("restore 0", NoSuchElementException.class, () -> m.restore(0));
+        refused("restore 0", NO_ELEMENT, () -> m.restore(0));
         refusedFor("restore", ARGUMENT, m::restore, -1, 2, Integer.MIN_VALUE, Integer.MAX_VALUE);
         m.save(1);
-        refused("restore 0 with 1 saved", NoSuchElementException.class, () -> m.restore(0));
-        String before = all(m);
+        refused("restore 0 with 1 saved", NO_ELEMENT, () -> m.restore(0));
+        String before = state(m);
         m.addStall(1, 1, 1, 1, 1);
         m.addBuyer(1, 1, 1, 1);
         m.setFog(1, 1);
         m.passMinutes(60);
         due("restore 1", m.restore(1), 7);
-        due("as saved", all(m), before);
+        due("as saved", state(m), before);
         due("nothing to undo", m.undoCount(), 0);
         refused("undo after restore", STATE, m::undo);
         m.passMinutes(1);
         due("a change after restore", m.undoCount(), 1);
         due("restore again", m.restore(1), 7);
-        due("as saved again", all(m), before);
+        due("as saved again", state(m), before);
         m.setPrice(0, 5);
         due("undo after a change behind restore", m.undo(), 0);
     }

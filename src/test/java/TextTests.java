@@ -1,13 +1,8 @@
-import java.util.NoSuchElementException;
-
 /** Tests of promises 1 to 6: the new object, the input buffer, setups, scripts and their errors. */
-public final class TextTests {
+public final class TextTests extends Checks {
     private static final String FIRST_SETUP = "market 4 20 10; fog 2 5 7 3 8; stall 30 red smooth 12 5; "
         + "stall 18 white soft 7 3; stall 55 blue smooth 9 2; buyer 25 40 smooth 6; buyer 0 6 soft 4; "
         + "buyer 60 100 smooth 9; minutes 7;";
-
-    private static int wrong = 0;
-    private static int checks = 0;
 
     public static void main(String[] args) {
         promise1NewObject();
@@ -30,61 +25,10 @@ public final class TextTests {
         goodScripts();
         errorsOfSetups();
         goodSetups();
-        System.out.println(checks + " checks, " + wrong + " wrong");
-        if (wrong != 0) {
-            System.exit(1);
-        }
+        end();
     }
 
     // ---- the helpers
-
-    private static void due(String what, Object got, Object want) {
-        checks++;
-        if (!String.valueOf(got).equals(String.valueOf(want))) {
-            wrong++;
-            System.out.println(what + ": answered " + got + ", due is " + want);
-        }
-    }
-
-    private static void refused(String what, Class<?> want, Runnable call) {
-        Object got = "nothing";
-        try {
-            call.run();
-        } catch (RuntimeException thrown) {
-            got = thrown.getClass().getName();
-        }
-        due(what + " throws", got, want.getName());
-    }
-
-    private static int word(String text, int from) {
-        int word = 0;
-        for (int i = from; i < from + 4; i++) {
-            word = word << 8 | (i < text.length() ? text.charAt(i) & 255 : 0);
-        }
-        return word;
-    }
-
-    private static int feed(FogBellMarket m, String text) {
-        int length = 0;
-        for (int i = 0; i < text.length(); i += 20) {
-            length = m.feed(word(text, i), word(text, i + 4), word(text, i + 8), word(text, i + 12), word(text, i + 16));
-        }
-        return length;
-    }
-
-    private static int inputLength(FogBellMarket m) {
-        return m.feed(0, 0, 0, 0, 0);
-    }
-
-    private static int script(FogBellMarket m, String text) {
-        feed(m, text);
-        return m.runScript();
-    }
-
-    private static int setup(FogBellMarket m, String text) {
-        feed(m, text);
-        return m.loadSetup();
-    }
 
     /** The caret marks the first byte of the token that has the error. */
     private static void badScript(FogBellMarket m, int code, String marked) {
@@ -161,9 +105,9 @@ public final class TextTests {
         due("input of a new market", inputLength(m), 0);
         due("output of a new market", m.outputByte(0), -1);
         due("changes of a new market", m.undoCount(), 0);
-        refused("undo of a new market", IllegalStateException.class, m::undo);
-        refused("restore 0 of a new market", NoSuchElementException.class, () -> m.restore(0));
-        refused("restore 1 of a new market", NoSuchElementException.class, () -> m.restore(1));
+        refused("undo of a new market", STATE, m::undo);
+        refused("restore 0 of a new market", NO_ELEMENT, () -> m.restore(0));
+        refused("restore 1 of a new market", NO_ELEMENT, () -> m.restore(1));
         FogBellMarket twin = new FogBellMarket();
         setup(twin, "market 1 1 1; fog 0;");
         setup(twin, FIRST_SETUP);
@@ -267,9 +211,9 @@ public final class TextTests {
         m.writeRope();
         setup(m, "market 1 1 0; fog 5; stall 7 red soft 3 3; price 0 9;");
         due("changes after a setup", m.undoCount(), 0);
-        refused("undo after a setup", IllegalStateException.class, m::undo);
-        refused("restore 0 after a setup", NoSuchElementException.class, () -> m.restore(0));
-        refused("restore 1 after a setup", NoSuchElementException.class, () -> m.restore(1));
+        refused("undo after a setup", STATE, m::undo);
+        refused("restore 0 after a setup", NO_ELEMENT, () -> m.restore(0));
+        refused("restore 1 after a setup", NO_ELEMENT, () -> m.restore(1));
         due("the output outlives a setup", m.outputByte(10), 42);
         m.setPrice(0, 8);
         due("undo after a change behind a setup", m.undo(), 0);
