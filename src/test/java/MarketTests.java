@@ -837,27 +837,20 @@ public final class MarketTests extends Checks {
     }
 
     private static void promise61UndoEachKindOfChange() {
-        FogBellMarket m = new FogBellMarket();
-        String before = state(m);
-        feed(m, "price 0 1; minutes 10;");
-        Runnable[] changes = {
-            () -> m.addStall(1, 2, 2, 4, 5), () -> m.addBuyer(1, 2, 2, 4), () -> m.setPrice(1, 100), () -> m.addStock(1, 10),
-            () -> m.setLantern(1, 1), () -> m.moveStall(1, 50), () -> m.setFog(3, 9), () -> m.putBack(0), () -> m.passMinutes(50),
-            () -> m.runScript()};
+        MarketCall[] changes = {
+            m -> m.addStall(1, 2, 2, 4, 5), m -> m.addBuyer(1, 2, 2, 4), m -> m.setPrice(1, 100), m -> m.addStock(1, 10),
+            m -> m.setLantern(1, 1), m -> m.moveStall(1, 50), m -> m.setFog(3, 9), m -> m.putBack(0), m -> m.passMinutes(50),
+            m -> m.runScript()};
         for (int i = 0; i < changes.length; i++) {
-            changes[i].run();
+            FogBellMarket m = new FogBellMarket();
+            String before = state(m);
+            feed(m, "price 0 1; minutes 10;");
+            changes[i].of(m);
             due("something changed in change " + i, state(m).equals(before), false);
             due("a change " + i, m.undoCount(), 1);
             due("undo of change " + i, m.undo(), 0);
-            if (i % 2 == 1 || i > 6) {
-                due("as before change " + i, state(m), before);
-            }
-            if (i == 4) {
-                due("lantern as before", m.lanternOf(1), 3);
-            }
+            due("as before change " + i, state(m), before);
         }
-        due("as before all", m.priceOf(1) * 100 + m.positionOf(1), 718);
-        due("fog as before", m.fogIn(15), 3);
     }
 
     private static void promise61ChangesThatAlterNothing() {

@@ -210,6 +210,17 @@ public final class TextEdgeTests extends Checks {
         due("19 bytes more", feed(m, "price 1 77 ;       "), 700);
         due("the script", m.runScript(), 2);
         due("what it did", m.positionOf(1) + " " + m.priceOf(1), "98 77");
+        Supplier<FogBellMarket> nearlyFull = () -> {
+            FogBellMarket busy = busy();
+            due("length of the busy market's input", feed(busy, " ".repeat(672)), 681);
+            return busy;
+        };
+        Supplier<FogBellMarket> refusedThen = () -> {
+            FogBellMarket busy = nearlyFull.get();
+            due("feed of 20 more", busy.feed(-1, -1, -1, -1, -1), -1);
+            return busy;
+        };
+        due("what changed by the feed", story(refusedThen), story(nearlyFull));
     }
 
     private static void theBufferIsEmptyAfterEachText() {

@@ -141,8 +141,10 @@ abstract class Checks {
 
     static String output(FogBellMarket m) {
         StringBuilder bytes = new StringBuilder();
-        for (int i = 0; m.outputByte(i) != FogBellMarket.NONE; i++) {
-            bytes.append((char) m.outputByte(i));
+        int part = m.outputByte(0);
+        while (part != FogBellMarket.NONE) {
+            bytes.append((char) part);
+            part = m.outputByte(bytes.length());
         }
         return bytes.toString();
     }
