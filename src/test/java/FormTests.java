@@ -58,7 +58,7 @@ public final class FormTests extends Checks {
     }
 
     private static void rule1TheFile(String text, String code) {
-        due("one file", SOURCE.getParent().toFile().list().length, 1);
+        due("one file", SOURCE.getParent().toFile().list((folder, name) -> name.endsWith(".java")).length, 1);
         due("no package line", Pattern.compile("(?m)^package\\b").matcher(code).find(), false);
         due("one public class", text.split("public final class", -1).length, 2);
     }

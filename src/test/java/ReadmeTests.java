@@ -3,7 +3,6 @@ import java.nio.file.Files;
 import java.nio.file.Path;
 import java.util.HashMap;
 import java.util.HashSet;
-import java.util.List;
 import java.util.Map;
 import java.util.Set;
 import java.util.function.Function;
@@ -76,8 +75,9 @@ public final class ReadmeTests extends Checks {
         CALLS.put("save(1)", m -> m.save(1));
         CALLS.put("restore(0)", m -> m.restore(0));
         CALLS.put("restore(1)", m -> m.restore(1));
-        for (int[] w : List.of(new int[] {0x70726963, 0x65203020, 0x35303b00, 0, 0}, new int[] {0x70726963, 0x65203020, 0x303b0000, 0, 0},
-            new int[] {0x6d61726b, 0x65742031, 0x20322033, 0x3b666f67, 0x20343b00})) {
+        int[][] texts = {{0x70726963, 0x65203020, 0x35303b00, 0, 0}, {0x70726963, 0x65203020, 0x303b0000, 0, 0},
+            {0x6d61726b, 0x65742031, 0x20322033, 0x3b666f67, 0x20343b00}};
+        for (int[] w : texts) {
             CALLS.put("feed(" + hex(w[0]) + ", " + hex(w[1]) + ", " + hex(w[2]) + ", " + hex(w[3]) + ", " + hex(w[4]) + ")",
                 m -> m.feed(w[0], w[1], w[2], w[3], w[4]));
         }
